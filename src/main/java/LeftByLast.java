@@ -181,9 +181,9 @@ public final class LeftByLast {
         int place = shop.firstNotBeen();
         if (place < 0) return STATE;
         int customer = shop.row[place];
-        thought.day.visitAlone(place);
+        Moment after = thought.day.visitAlone(place);
         int bought = thought.day.bought[customer];
-        shop.takeOver(customer, bought, thought.day.ahead[place + 1]);
+        shop.takeOver(customer, bought, after);
         return orNot(bought);
     }
 
@@ -506,9 +506,14 @@ public final class LeftByLast {
             for (int part = 0; part <= LONGEST; part++) {
                 if (!readJoined(0, 0)) return false;
                 int after = sign();
-                if (after == '?' ? asks : after != ';' && after != END) return false;
-                note(after == '?' ? -'?' : -';');
-                if (after == END) return true;
+                if (after == '?') {
+                    if (asks) return false;
+                    note(-'?');
+                } else {
+                    if (after != ';' && after != END) return false;
+                    note(-';');
+                    if (after == END) return true;
+                }
                 asks = after == '?';
                 at++;
             }
@@ -685,10 +690,11 @@ public final class LeftByLast {
             return ahead[shop.customers];
         }
 
-        void visitAlone(int place) {
+        Moment visitAlone(int place) {
             begin();
             ahead[place].become(ahead[0]);
             goThrough(place, place + 1);
+            return ahead[place + 1];
         }
 
         void goThrough(int from, int end) {
