@@ -151,6 +151,13 @@ public final class LawTest {
         chosen("(7-10)%2+(n=1)*0", 0);
         chosen("((n-2)%2=0-1)*5+(n=3)", 1);
         chosen("p*2-p-p+n", 3);
+        // What is 1, or 0, is so in truth: by anything else thing 0 would be chosen, or another.
+        String[] ones = {"!0", "2&3", "0|7", "7|0", "7|2", "1<2", "2>1", "5=5", "!!9", "!0&-3"};
+        for (String one : ones) chosen("n=(" + one + ")", 1);
+        String[] zeros = {"!5", "0&4", "4&0", "0|0", "2<2", "2>2", "3=4", "6/0", "6%0", "0/0", "!-1"};
+        for (String zero : zeros) chosen("n=2+(" + zero + ")", 2);
+        chosen("n=2*((0-2147*1000*1000-483*1000-648)/(0-1)<0)", 2);
+        chosen("n=3-(0-2147*1000*1000-483*1000-648)%(0-1)", 3);
         chosen("(1-p)/20", 1);
     }
 

@@ -10,6 +10,7 @@ public final class ThingsTest {
         mend();
         mendRefused();
         of();
+        wishesApart();
         swap();
         Check.end("ThingsTest");
     }
@@ -140,6 +141,7 @@ public final class ThingsTest {
         Check.due("5: wish was", x.mend(11, 3, 99), 0);
         Check.due("5: wish is", x.of(11, 20), 99);
         Check.due("5: another wish", x.of(1, 20), 0);
+        Check.due("5: one more", x.of(10, 20), 0);
         Check.due("5: rise was", x.mend(0, 4, 9), 0);
         Check.due("5: rise is", x.of(0, 30), 9);
         Check.due("5: the same once more", x.mend(0, 4, 9), 9);
@@ -190,6 +192,16 @@ public final class ThingsTest {
         int[][] bad = {{2, 0}, {2, 1}, {-1, 0}, {2, 10}, {-1, 10}, {2, 14}, {12, 20}, {20, 20}, {-1, 20}, {1, 30},
             {1, 31}, {1, 32}, {0, 2}, {0, 9}, {0, 15}, {0, 19}, {0, 21}, {0, 29}, {0, 33}, {0, -1}};
         for (int[] one : bad) Check.due("6: of(" + one[0] + ", " + one[1] + ")", x.of(one[0], one[1]), -1);
+    }
+
+    private static void wishesApart() {
+        LeftByLast x = new LeftByLast();
+        for (int t = 0; t < 8; t++) x.thing(t);
+        for (int k = 0; k < 7; k++) x.customer(k, 1);
+        for (int kn = 0; kn < 68; kn++) x.mend(kn, 3, kn);
+        for (int kn = 0; kn < 68; kn++) Check.due("6: wish " + kn, x.of(kn, 20), kn % 10 < 8 ? kn : -1);
+        Check.due("6: no thing 8", x.of(68, 20), -1);
+        Check.due("6: no customer 7", x.of(70, 20), -1);
     }
 
     private static void swap() {

@@ -181,6 +181,10 @@ public final class ThoughtTest {
         Check.due("12: measure below", x.order(-1, -1), -1);
         Check.due("12: k above", x.order(0, 3), -1);
         Check.due("12: k below", x.order(0, -2), -1);
+        x.mend(1, 1, 0);
+        x.mend(2, 1, 0);
+        Check.due("12: nothing is sold", x.order(2, -1), 0);
+        for (int k = 0; k < 3; k++) Check.due("12: the first of all, " + k, x.order(2, k), k);
         LeftByLast none = new LeftByLast();
         Check.due("12: nobody", none.order(2, -1), 0);
         Check.due("12: nobody is 0th", none.order(2, 0), -1);
@@ -199,6 +203,13 @@ public final class ThoughtTest {
         Check.due("13: below", x.change(-1), -1);
         Check.due("13: above", x.change(3), -1);
         Check.due("13: nobody", new LeftByLast().change(0), -2);
+        // 0 shows it if it is the first, and buys it behind 1; 2 wishes it most.
+        LeftByLast y = shop(new int[] {10}, 50, 1, 50, 1, 50, 1);
+        y.mend(0, 3, 11);
+        y.mend(10, 3, 12);
+        y.mend(20, 3, 40);
+        Check.due("13: places 1 and 2", y.change(2), 12);
+        Check.due("13: SERVED and TAKEN IN are as they were", y.change(0) + y.change(1), -4);
     }
 
     private static void place() {
@@ -382,6 +393,11 @@ public final class ThoughtTest {
         Check.due("19: 26 is as much as the wish", x.riseFor(), 6);
         x.mend(0, 4, 9);
         Check.due("19: the rise told does not matter", x.riseFor(), 6);
+        x.mend(11, 3, 29);
+        Check.due("19: the most", x.riseFor(), 9);
+        x.mend(11, 3, 30);
+        Check.due("19: not by 9", x.riseFor(), -2);
+        x.mend(11, 3, 26);
         x.mend(1, 1, 21);
         Check.due("19: 22 is more than the coin", x.riseFor(), 2);
         Check.due("19: nobody", new LeftByLast().riseFor(), -2);

@@ -193,6 +193,27 @@ public final class ToldDaysTest {
         x.visit();
         x.back();
         Check.due("26: a later image", x.of(0, 14), 0);
+        imageOfWhatIsGone();
+    }
+
+    private static void imageOfWhatIsGone() {
+        LeftByLast x = shop();
+        x.visit();
+        x.visit();
+        x.image();
+        x.mend(10, 3, 30);
+        x.mend(1, 1, 40);
+        x.evening();
+        x.visit();
+        x.visit();
+        Check.due("27: both were bought", x.count(1), 0);
+        Check.due("27: for 30", x.of(0, 32), 30);
+        x.back();
+        Check.due("27: 0 is there again", x.of(0, 1), 1);
+        Check.due("27: 1 was gone then", x.of(1, 1), 0);
+        Check.due("27: TAKEN IN then", x.of(0, 32), 20);
+        Check.due("27: coin then", x.of(1, 10), 30);
+        Check.due("27: two had been", x.evening(), 2);
     }
 
     private static void imageAndThoseThatCame() {
