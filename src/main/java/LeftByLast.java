@@ -43,11 +43,12 @@ public final class LeftByLast {
     }
 
     public int customers(int shelf, int i, int n) {
-        if (!shelves.isShelf(shelf) || i < 0 || n < 1 || n > MOST_CUSTOMERS) return BAD;
+        if (!shelves.isShelf(shelf) || n < 1 || n > MOST_CUSTOMERS) return BAD;
         int refusal = shelves.refusalOfBytes(shelf);
         if (refusal == ABSENT) return 0;
         if (refusal != 0) return refusal;
         int came = 0;
+        // No range is told for i: a place below 0, or behind the end, is one where the row has ended.
         int at = i;
         while (came < n && shelves.hasPlaces(shelf, at, 3) && cameFrom(shelf, at)) {
             came++;

@@ -163,7 +163,7 @@ public final class FuzzTest {
                 ask("put", s, i, draws.from(low[i % 3], high[i % 3]));
             }
         }
-        ask("customers", s, draws.oneIn(3) ? draws.from(-1, 9) : 0, draws.oneIn(4) ? draws.from(0, 8) : draws.from(1, 2));
+        ask("customers", s, draws.oneIn(3) ? draws.from(-4, 9) : 0, draws.oneIn(4) ? draws.from(0, 8) : draws.from(1, 2));
     }
 
     private void mend() {

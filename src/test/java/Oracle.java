@@ -75,18 +75,24 @@ public final class Oracle {
     }
 
     public int customers(int s, int i, int n) {
-        if (badShelf(s) || i < 0 || n < 1 || n > 7) return BAD;
-        if (shelf[s] == null) return 0;
-        if (!(shelf[s] instanceof byte[])) return -12;
-        byte[] bytes = (byte[]) shelf[s];
+        if (badShelf(s) || n < 1 || n > 7) return BAD;
         int came = 0;
-        for (long at = i; came < n && at + 2 < bytes.length; at += 3) {
-            byte way = bytes[(int) at + 2];
-            if (way < 0 || way > 4) break;
-            int number = customer(bytes[(int) at], bytes[(int) at + 1]);
-            if (number < 0) break;
-            people.get(number).way = way;
-            came++;
+        try {
+            byte[] bytes = (byte[]) shelf[s];
+            for (int at = i; came < n; at += 3) {
+                int coin = bytes[at];
+                int hands = bytes[at + 1];
+                int way = bytes[at + 2];
+                if (way < 0 || way > 4) break;
+                int number = customer(coin, hands);
+                if (number < 0) break;
+                people.get(number).way = way;
+                came++;
+            }
+        } catch (NullPointerException | IndexOutOfBoundsException e) {
+            return came;
+        } catch (ClassCastException e) {
+            return -12;
         }
         return came;
     }

@@ -7,6 +7,7 @@ public final class ThingsTest {
         customersFromRow();
         customersThatEnd();
         customersRefused();
+        customersFromBelow();
         mend();
         mendRefused();
         of();
@@ -114,11 +115,32 @@ public final class ThingsTest {
         Check.due("4: shelf above", x.customers(6, 0, 1), -1);
         Check.due("4: none wanted", x.customers(0, 0, 0), -1);
         Check.due("4: eight wanted", x.customers(0, 0, 8), -1);
-        Check.due("4: place below", x.customers(0, -1, 1), -1);
         Check.due("4: a taking", x.customers(3, 0, 1), -12);
         Check.due("4: shorts", x.customers(4, 0, 1), -12);
         Check.due("4: BAD ahead of -12", x.customers(4, 0, 8), -1);
+        Check.due("4: a taking, place below", x.customers(3, -1, 1), -12);
+        Check.due("4: shorts, place below", x.customers(4, -1, 1), -12);
+        Check.due("4: shorts, place behind", x.customers(4, 10, 1), -12);
+        Check.due("4: shelf below, place below", x.customers(-1, -1, 1), -1);
+        Check.due("4: none wanted, place below", x.customers(0, -1, 0), -1);
         Check.due("4: nobody came", x.count(2), 0);
+    }
+
+    private static void customersFromBelow() {
+        LeftByLast x = new LeftByLast();
+        Texts.bytes(x, 0, 10, 1, 0, 20, 2, 0, 30, 1, 0);
+        x.row(1, 0, 0);
+        x.keep(2, -1);
+        for (int i : new int[] {Integer.MIN_VALUE, -60, -4, -3, -2, -1}) {
+            for (int n : new int[] {1, 2, 7}) {
+                Check.due("4: a row from " + i, x.customers(0, i, n), 0);
+                Check.due("4: a row of no elements from " + i, x.customers(1, i, n), 0);
+                Check.due("4: a row that is missing from " + i, x.customers(5, i, n), 0);
+                Check.due("4: a shelf that was emptied from " + i, x.customers(2, i, n), 0);
+            }
+        }
+        Check.due("4: nobody came from below", x.count(2), 0);
+        Check.due("4: from 0 they come", x.customers(0, 0, 7), 3);
     }
 
     private static LeftByLast small() {
