@@ -1,3 +1,5 @@
+import java.util.function.IntUnaryOperator;
+
 /** Counts answers that are as due, and prints those that are not. */
 final class Check {
     private static int right, wrong;
@@ -18,8 +20,9 @@ final class Check {
         due(call + " [" + got + " | " + want + "]", got.equals(want) ? 1 : 0, 1);
     }
 
-    static boolean anyWrong() {
-        return wrong > 0;
+    /** One call with each of these values has the same answer due. */
+    static void each(String call, IntUnaryOperator of, long want, int... values) {
+        for (int v : values) due(call + " with " + v, of.applyAsInt(v), want);
     }
 
     /** Every test's main ends with this. */

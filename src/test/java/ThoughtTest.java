@@ -21,17 +21,9 @@ public final class ThoughtTest {
         Check.end("ThoughtTest");
     }
 
-    /** Prices, then coin and hands by customers. */
-    private static LeftByLast shop(int[] prices, int... coinsAndHands) {
-        LeftByLast x = new LeftByLast();
-        for (int price : prices) x.thing(price);
-        for (int i = 0; i < coinsAndHands.length; i += 2) x.customer(coinsAndHands[i], coinsAndHands[i + 1]);
-        return x;
-    }
-
     /** 0 shows a thing of 20 to 1, who buys it; 2 sees nothing then. */
     private static LeftByLast threeInARow() {
-        LeftByLast x = shop(new int[] {10, 20, 30}, 99, 1, 30, 1, 99, 1);
+        LeftByLast x = Texts.shop(new int[] {10, 20, 30}, 99, 1, 30, 1, 99, 1);
         Texts.wishes(x, 0, 1, 5, 2);
         Texts.wishes(x, 1, 0, 26, 0);
         Texts.wishes(x, 2, 40, 40, 40);
@@ -58,7 +50,7 @@ public final class ThoughtTest {
     }
 
     private static void choosesAmongLeft() {
-        LeftByLast x = shop(new int[] {10, 20, 30, 5}, 0, 2, 99, 1);
+        LeftByLast x = Texts.shop(new int[] {10, 20, 30, 5}, 0, 2, 99, 1);
         Texts.wishes(x, 0, 0, 7, 9, 8);
         Texts.wishes(x, 1, 99, 50, 60, 35);
         Check.due("10: 2 and 3 are left, both worth 30", x.buys(1), 2);
@@ -76,7 +68,7 @@ public final class ThoughtTest {
         int[] two = {12, 3, 12, 6};
         for (int way = 0; way < 4; way++) {
             for (int hands = 1; hands <= 2; hands++) {
-                LeftByLast y = shop(new int[] {10, 40, 30, 20}, 0, hands, 0, 1);
+                LeftByLast y = Texts.shop(new int[] {10, 40, 30, 20}, 0, hands, 0, 1);
                 Texts.wishes(y, 0, 3, 5, 9, 9);
                 Texts.wishes(y, 1, 7, 7, 2, 1);
                 y.mend(0, 2, way);
@@ -84,15 +76,15 @@ public final class ThoughtTest {
                 Check.due("11: way " + way + ", hands " + hands, y.led(0, 1), hands == 1 ? one[way] : two[way]);
             }
         }
-        LeftByLast y = shop(new int[] {10}, 0, 2);
+        LeftByLast y = Texts.shop(new int[] {10}, 0, 2);
         Check.due("11: fewer things than hands", y.day(3), 1);
-        Check.due("11: no things", shop(new int[0], 5, 2).day(3), 0);
+        Check.due("11: no things", Texts.shop(new int[0], 5, 2).day(3), 0);
     }
 
     private static void waysOfTheLastOne() {
         int[] want = {4, 4, 4, 2, 4};
         for (int way = 0; way <= 4; way++) {
-            LeftByLast x = shop(new int[] {10, 40, 30, 20}, 0, 1);
+            LeftByLast x = Texts.shop(new int[] {10, 40, 30, 20}, 0, 1);
             Texts.wishes(x, 0, 3, 5, 9, 9);
             x.mend(0, 2, way);
             Check.due("11: the last one's way " + way, x.day(3), want[way]);
@@ -127,13 +119,13 @@ public final class ThoughtTest {
         Check.due("11: as much as the wish", x.buys(1), -2);
         Check.due("11: 2 buys what 1 took up", x.buys(2), 1);
         Check.due("11: two rises", x.day(1), 32);
-        LeftByLast y = shop(new int[] {97}, 0, 1, 99, 1);
+        LeftByLast y = Texts.shop(new int[] {97}, 0, 1, 99, 1);
         y.mend(0, 4, 9);
         y.mend(10, 3, 99);
         Check.due("11: 99 at most", y.buys(1), -2);
         y.visit();
         Check.due("11: the price is 99", y.of(0, 0), 99);
-        LeftByLast z = shop(new int[] {10, 10}, 0, 1, 0, 1);
+        LeftByLast z = Texts.shop(new int[] {10, 10}, 0, 1, 0, 1);
         z.mend(0, 4, 3);
         z.visit();
         z.visit();
@@ -188,7 +180,7 @@ public final class ThoughtTest {
         LeftByLast none = new LeftByLast();
         Check.due("12: nobody", none.order(2, -1), 0);
         Check.due("12: nobody is 0th", none.order(2, 0), -1);
-        LeftByLast one = shop(new int[] {4}, 9, 1);
+        LeftByLast one = Texts.shop(new int[] {4}, 9, 1);
         Check.due("12: one alone", one.order(2, 0), 0);
     }
 
@@ -204,7 +196,7 @@ public final class ThoughtTest {
         Check.due("13: above", x.change(3), -1);
         Check.due("13: nobody", new LeftByLast().change(0), -2);
         // 0 shows it if it is the first, and buys it behind 1; 2 wishes it most.
-        LeftByLast y = shop(new int[] {10}, 50, 1, 50, 1, 50, 1);
+        LeftByLast y = Texts.shop(new int[] {10}, 50, 1, 50, 1, 50, 1);
         y.mend(0, 3, 11);
         y.mend(10, 3, 12);
         y.mend(20, 3, 40);
@@ -239,7 +231,7 @@ public final class ThoughtTest {
         x.swap(1);
         Check.due("15: 2 by 0, who is just ahead now", x.friends(22), 1);
         // 0 has coin for nothing here, so any of both could show it; the least bits are told.
-        LeftByLast y = shop(new int[] {9, 9}, 0, 1, 0, 1, 50, 1);
+        LeftByLast y = Texts.shop(new int[] {9, 9}, 0, 1, 0, 1, 50, 1);
         y.mend(21, 3, 20);
         Check.due("15: only the one just ahead", y.friends(21), 2);
         y.mend(1, 2, 1);
@@ -249,7 +241,7 @@ public final class ThoughtTest {
 
     /** 1 would buy what 0 shows by its own wish; so 0 has to show the wished one, and 1, too. */
     private static void two() {
-        LeftByLast x = shop(new int[] {5, 6}, 0, 1, 40, 1, 40, 1);
+        LeftByLast x = Texts.shop(new int[] {5, 6}, 0, 1, 40, 1, 40, 1);
         Texts.wishes(x, 0, 9, 0);
         Texts.wishes(x, 1, 20, 0);
         Texts.wishes(x, 2, 0, 30);
@@ -262,7 +254,7 @@ public final class ThoughtTest {
         Check.due("15: below", x.friends(-1), -1);
         Check.due("15: no thing", x.friends(3), -1);
         Check.due("15: no customer", x.friends(30), -1);
-        LeftByLast y = shop(new int[] {9, 9}, 0, 2, 50, 1);
+        LeftByLast y = Texts.shop(new int[] {9, 9}, 0, 2, 50, 1);
         Texts.wishes(y, 0, 5, 9);
         Texts.wishes(y, 1, 20, 19);
         Check.due("15: what 0 takes up in two hands", y.friends(10), 0);
@@ -288,13 +280,13 @@ public final class ThoughtTest {
         Check.due("16: brings 30 more", x.nephew(1), 50);
         Check.due("16: below", x.nephew(-1), -1);
         Check.due("16: above", x.nephew(2), -1);
-        LeftByLast y = shop(new int[] {20, 20}, 50, 1);
+        LeftByLast y = Texts.shop(new int[] {20, 20}, 50, 1);
         Check.due("16: nothing more", y.nephew(0), -2);
         Check.due("16: nothing more, how much", y.nephew(1), -2);
         Texts.wishes(y, 0, 30, 30);
         Check.due("16: the least of like things", y.nephew(0), 0);
         // The kind one does not know him: its next one is 1, ahead of whom he stands.
-        LeftByLast z = shop(new int[] {10, 20, 5}, 0, 1, 40, 1, 40, 1);
+        LeftByLast z = Texts.shop(new int[] {10, 20, 5}, 0, 1, 40, 1, 40, 1);
         z.mend(0, 2, 1);
         Texts.wishes(z, 1, 12, 21, 0);
         Texts.wishes(z, 2, 0, 50, 0);
@@ -305,7 +297,7 @@ public final class ThoughtTest {
 
     /** He takes up nothing then, and hides what was left. */
     private static void goneThing() {
-        LeftByLast x = shop(new int[] {1, 10}, 99, 1, 99, 1, 0, 1);
+        LeftByLast x = Texts.shop(new int[] {1, 10}, 99, 1, 99, 1, 0, 1);
         Texts.wishes(x, 0, 9, 0);
         Texts.wishes(x, 1, 8, 0);
         x.visit();
@@ -325,7 +317,7 @@ public final class ThoughtTest {
     }
 
     private static void nephewAtARise() {
-        LeftByLast x = shop(new int[] {20}, 30, 1);
+        LeftByLast x = Texts.shop(new int[] {20}, 30, 1);
         x.mend(0, 3, 29);
         x.mend(0, 4, 4);
         Check.due("16: what he puts down rises", x.nephew(1), 24);
@@ -348,7 +340,7 @@ public final class ThoughtTest {
         Check.due("17: two rises", x.price(1), 33);
         Check.due("17: below", x.price(-1), -1);
         Check.due("17: above", x.price(3), -1);
-        LeftByLast y = shop(new int[] {30}, 0, 1, 99, 1);
+        LeftByLast y = Texts.shop(new int[] {30}, 0, 1, 99, 1);
         y.mend(10, 3, 99);
         Check.due("17: 98", y.price(0), 98);
         y.visit();
@@ -359,7 +351,7 @@ public final class ThoughtTest {
 
     /** 1 would buy thing 0 at 98, and thing 3 after it at 1; at 99 things 1 and 2 are sold at 98. */
     private static void dearest() {
-        LeftByLast x = shop(new int[] {50, 98, 98, 1}, 0, 1, 98, 1, 98, 1, 98, 1, 98, 1);
+        LeftByLast x = Texts.shop(new int[] {50, 98, 98, 1}, 0, 1, 98, 1, 98, 1, 98, 1, 98, 1);
         Texts.wishes(x, 0, 9, 0, 0, 0);
         Texts.wishes(x, 1, 99, 0, 0, 0);
         Texts.wishes(x, 2, 0, 99, 0, 0);
@@ -379,7 +371,7 @@ public final class ThoughtTest {
         Check.due("18: with the rise", x.enough(1), 23);
         Check.due("18: below", x.enough(-1), -1);
         Check.due("18: above", x.enough(3), -1);
-        LeftByLast y = shop(new int[] {0}, 0, 1, 0, 1);
+        LeftByLast y = Texts.shop(new int[] {0}, 0, 1, 0, 1);
         y.mend(10, 3, 1);
         Check.due("18: nothing is enough", y.enough(1), 0);
         y.mend(0, 0, 99);
