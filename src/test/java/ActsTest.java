@@ -76,14 +76,18 @@ public final class ActsTest {
     }
 
     private static void againstClasses() {
+        Draws draws = new Draws(5);
+        for (int i = 0; i < 6; i++) againstClasses(draws);
+    }
+
+    private static void againstClasses(Draws draws) {
         LeftByLast x = new LeftByLast();
         OracleActs y = new OracleActs();
-        Draws draws = new Draws(5);
         for (int i = 0; i < 50; i++) {
             int kind = draws.below(8);
             Check.due("30: body", x.body(kind), y.body(kind));
         }
-        for (int i = 0; i < 100; i++) {
+        for (int i = 0; i < 24; i++) {
             int body = draws.below(50);
             int act = draws.below(4);
             int with = draws.anyInt();
