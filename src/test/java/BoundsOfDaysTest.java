@@ -36,6 +36,7 @@ public final class BoundsOfDaysTest {
         friendsOfTheFirst();
         friendsOfWhatIsGone();
         friendsNobodyHasToBe();
+        friendsOfEachPair();
         nephewAtEachPlace();
         nephewIfMore();
         nephewAtTheLeastPlace();
@@ -612,6 +613,23 @@ public final class BoundsOfDaysTest {
         x.mend(60, 3, 6);
         x.mend(6, 1, 4);
         Check.due("15: nor make it cheaper", x.friends(60), -2);
+    }
+
+    /** "kn: 10 times the CUSTOMER and the THING": each of 56. */
+    private static void friendsOfEachPair() {
+        for (int k = 0; k < 7; k++) {
+            LeftByLast x = new LeftByLast();
+            for (int i = 0; i < 8; i++) x.thing(5);
+            for (int i = 0; i < 7; i++) x.customer(i == k ? 9 : 0, 1);
+            for (int t = 0; t < 8; t++) {
+                x.mend(10 * k + t, 3, 9);
+                for (int i = 0; i < k; i++) x.mend(10 * i + (t + 1) % 8, 3, 1);
+                Check.due("15: friends of " + k + " for thing " + t, x.friends(10 * k + t), k == 0 ? -2 : 1 << k - 1);
+                Check.due("15: without a wish, of " + k, x.friends(10 * k + (t + 1) % 8), -2);
+                x.mend(10 * k + t, 3, 0);
+                for (int i = 0; i < k; i++) x.mend(10 * i + (t + 1) % 8, 3, 0);
+            }
+        }
     }
 
     /** "he stands at a place (0 .. how many CUSTOMERS there are)", with each THING. */

@@ -35,6 +35,7 @@ public final class BoundsOfLawTest {
         priceThatMoved();
         aHouseOfLikeOnes();
         askedAnewAtBounds();
+        askedAtFirstAtBounds();
         Check.end("BoundsOfLawTest");
     }
 
@@ -89,15 +90,18 @@ public final class BoundsOfLawTest {
         }
     }
 
-    /** FAULT of texts of two bytes, the first a name. */
+    /** FAULT of texts of two bytes, the first a name or a digit. */
     private static void secondBytes() {
-        LeftByLast x = new LeftByLast();
-        for (int letter = 0; letter < 256; letter++) {
-            x.feed('p');
-            x.feed(letter);
-            boolean goesOn = "|&<=>+-*/%?;".indexOf(letter) >= 0;
-            Check.due("9: p and byte " + letter, x.law(), goesOn ? -102 : -101);
-            if (letter % 128 == 127) x = new LeftByLast();
+        for (char first : "p5".toCharArray()) {
+            LeftByLast x = new LeftByLast();
+            for (int letter = 0; letter < 256; letter++) {
+                x.feed(first);
+                x.feed(letter);
+                boolean whole = first == '5' && letter >= '0' && letter <= '9';
+                boolean goesOn = "|&<=>+-*/%?;".indexOf(letter) >= 0;
+                Check.due("9: " + first + " and byte " + letter, x.law(), whole ? 1 : goesOn ? -102 : -101);
+                if (letter % 128 == 127) x = new LeftByLast();
+            }
         }
     }
 
@@ -422,6 +426,8 @@ public final class BoundsOfLawTest {
         Check.due("9: an empty tape is no law", chosen(x), 3);
         Texts.law(x, "0-n;y");
         Check.due("9: nor a text with a fault behind a line", chosen(x), 3);
+        for (int t = 0; t < 4; t++) x.mend(t, 0, 77);
+        Check.due("9: nor, worked out anew", chosen(x), 3);
         Texts.law(x, "0-n");
         Check.due("9: another text", chosen(x), 0);
     }
@@ -528,28 +534,49 @@ public final class BoundsOfLawTest {
         }
     }
 
-    /** Numbers that are worked out once are worked out anew if one thing less and 99 others more are told. */
+    private static void tellOne(LeftByLast x, char name, int v) {
+        if (name == 'p') x.mend(1, 0, v);
+        if (name == 'w') x.mend(1, 3, v);
+        if (name == 'x') x.mend(11, 3, v);
+        if (name == 'c') x.mend(0, 1, v);
+    }
+
+    /** What was worked out once is worked out anew if one number is told less, and another one more. */
     private static void askedAnewAtBounds() {
-        int[][][] tells = {{{1, 0}, {1, 3}}, {{1, 3}, {11, 3}}, {{11, 3}, {0, 1}}};
-        String[] laws = {"p=0&w=99&n=1", "w=0&x=99&n=1", "x=0&c=99&n=1"};
-        for (int i = 0; i < laws.length; i++) {
-            LeftByLast x = Texts.shop(new int[] {0, 0}, 0, 1, 0, 1);
-            x.mend(0, 2, 4);
-            Texts.law(x, laws[i]);
-            x.mend(tells[i][0][0], tells[i][0][1], 1);
-            Check.due("9: not yet by " + laws[i], chosen(x), 0);
-            x.mend(tells[i][0][0], tells[i][0][1], 0);
-            x.mend(tells[i][1][0], tells[i][1][1], 99);
-            x.mend(11, 3, i == 1 ? 99 : 0);
-            Check.due("9: now by " + laws[i], chosen(x), 1);
+        for (char less : "pwxc".toCharArray()) {
+            for (char more : "pwxc".toCharArray()) {
+                for (int v : new int[] {1, 99}) {
+                    if (less == more) continue;
+                    String law = "n=1&" + less + "=0&" + more + "=" + v;
+                    LeftByLast x = Texts.shop(new int[] {0, 0}, 0, 1, 0, 1);
+                    x.mend(0, 2, 4);
+                    Texts.law(x, law);
+                    Check.due("9: all are 0, by " + law, chosen(x), 0);
+                    tellOne(x, less, 1);
+                    Check.due("9: not yet, by " + law, chosen(x), 0);
+                    tellOne(x, less, 0);
+                    tellOne(x, more, v);
+                    Check.due("9: now, by " + law, chosen(x), 1);
+                }
+            }
         }
-        LeftByLast x = Texts.shop(new int[] {0, 0}, 1, 1);
-        x.mend(0, 2, 4);
-        Texts.law(x, "n=1&c=1");
-        Check.due("9: all is 0 but the coin", chosen(x), 1);
-        LeftByLast y = Texts.shop(new int[] {0, 0}, 0, 1);
-        y.mend(0, 2, 4);
-        Texts.law(y, "n=1&c=0");
-        Check.due("9: all is 0", chosen(y), 1);
+    }
+
+    /** Each of PRICE, the own WISH, the next one's, COIN at a bound, with each of the others at one. */
+    private static void askedAtFirstAtBounds() {
+        int[] bounds = {0, 1, 99};
+        for (int all = 0; all < 81; all++) {
+            LeftByLast x = Texts.shop(new int[] {0, 0}, 0, 1, 0, 1);
+            StringBuilder law = new StringBuilder("n=1");
+            int i = all;
+            for (char name : "pwxc".toCharArray()) {
+                tellOne(x, name, bounds[i % 3]);
+                law.append('&').append(name).append('=').append(bounds[i % 3]);
+                i /= 3;
+            }
+            x.mend(0, 2, 4);
+            Texts.law(x, law.toString());
+            Check.due("9: at first, by " + law, chosen(x), 1);
+        }
     }
 }

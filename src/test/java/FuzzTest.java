@@ -1,4 +1,3 @@
-import java.lang.reflect.InvocationTargetException;
 import java.lang.reflect.Method;
 import java.util.ArrayList;
 import java.util.List;
@@ -201,29 +200,9 @@ public final class FuzzTest {
         StringBuilder call = new StringBuilder(name).append('(');
         for (int i = 0; i < values.length; i++) call.append(i == 0 ? "" : ", ").append(values[i]);
         told.add(call.append(')').toString());
-        long got = answer(x, LeftByLast.class, name, values);
-        long want = answer(y, Oracle.class, name, values);
+        long got = Calls.answer(x, name, values);
+        long want = Calls.answer(y, name, values);
         Check.due(call.toString(), got, want);
         wrong = got != want;
-    }
-
-    private static long answer(Object of, Class<?> type, String name, long[] values) {
-        for (Method m : type.getMethods()) {
-            if (!m.getName().equals(name) || m.getParameterCount() != values.length) continue;
-            Object[] all = new Object[values.length];
-            for (int i = 0; i < all.length; i++) {
-                if (m.getParameterTypes()[i] == long.class) all[i] = values[i];
-                else all[i] = (int) values[i];
-            }
-            try {
-                return ((Number) m.invoke(of, all)).longValue();
-            } catch (InvocationTargetException e) {
-                e.getCause().printStackTrace(System.out);
-                return type == Oracle.class ? 4000000001L : 4000000002L;
-            } catch (IllegalAccessException e) {
-                return 4000000003L;
-            }
-        }
-        return 4000000004L;
     }
 }
